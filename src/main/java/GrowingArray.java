@@ -52,8 +52,8 @@ public final class GrowingArray {
         refuseIfDown();
         refuseIfNoPlace(a);
         int n = widthOf(a);
-        int row = rowOf(a);
-        int target = diskOf(a);
+        int row = rowIn(n, a);
+        int target = diskIn(n, a);
         writesBegun++;
         order.tell(held.sequence, writesBegun, row, target, parityDisk(n, row));
         order.value = v;
@@ -181,13 +181,14 @@ public final class GrowingArray {
         if (!isPlace(a)) {
             return NONE;
         }
+        int n = widthOf(a);
         switch (what) {
             case 0:
-                return diskOf(a);
+                return diskIn(n, a);
             case 1:
-                return rowOf(a);
+                return rowIn(n, a);
             case 2:
-                return parityDisk(widthOf(a), rowOf(a));
+                return parityDisk(n, rowIn(n, a));
             case 3:
                 return isMoved(a) ? 1 : 0;
             default:
@@ -298,8 +299,12 @@ public final class GrowingArray {
         return n < 1 || row < 0 ? 0 : n - 1 - row % n;
     }
 
-    private static int dataDisk(int n, int row, int index) {
-        return n < 1 || index < 0 ? 0 : (parityDisk(n, row) + 1 + index) % n;
+    private static int rowIn(int n, int a) {
+        return n < 2 ? 0 : a / (n - 1);
+    }
+
+    private static int diskIn(int n, int a) {
+        return n < 2 ? 0 : (parityDisk(n, rowIn(n, a)) + 1 + a % (n - 1)) % n;
     }
 
     private int placeCount() {
@@ -324,16 +329,6 @@ public final class GrowingArray {
 
     private int widthOfRow(int row) {
         return row < held.front ? held.m : held.n;
-    }
-
-    private int rowOf(int a) {
-        int dataBlocks = widthOf(a) - 1;
-        return dataBlocks < 1 ? 0 : a / dataBlocks;
-    }
-
-    private int diskOf(int a) {
-        int n = widthOf(a);
-        return n < 2 ? 0 : dataDisk(n, rowOf(a), a % (n - 1));
     }
 
     // Which disk is what
@@ -362,7 +357,11 @@ public final class GrowingArray {
 
     private int rebuildingDisk() {
         int d = diskNotLive();
-        return d != NONE && !disks[d].failed ? d : NONE;
+        return d != NONE && disks[d].isRebuilding() ? d : NONE;
+    }
+
+    private boolean isRebuilt(int d, int row) {
+        return isThere(d) && disks[d].isRebuilding() && row < rebuiltRows;
     }
 
     private boolean isArrayDegraded() {
@@ -388,7 +387,8 @@ public final class GrowingArray {
     }
 
     private long valueOf(int a) {
-        return blockOf(widthOf(a), rowOf(a), diskOf(a));
+        int n = widthOf(a);
+        return blockOf(n, rowIn(n, a), diskIn(n, a));
     }
 
     private long parityWith(int n, int row, int target, long v) {
@@ -428,13 +428,9 @@ public final class GrowingArray {
     }
 
     private void writeBlock(int d, int row, long v) {
-        if (takesBlock(d, row) && spendWrite()) {
+        if ((isLive(d) || isRebuilt(d, row)) && spendWrite()) {
             disks[d].takeBlock(row, v);
         }
-    }
-
-    private boolean takesBlock(int d, int row) {
-        return isLive(d) || d == rebuildingDisk() && isThere(d) && row < rebuiltRows;
     }
 
     /** The disk that is joining (NONE: none is) gets its SUPER in its turn among the LIVE. */
@@ -668,11 +664,15 @@ public final class GrowingArray {
             return !failed && superSector.sequence != 0;
         }
 
+        boolean isRebuilding() {
+            return !failed && superSector.sequence == 0;
+        }
+
         int condition() {
             if (failed) {
                 return 1;
             }
-            return superSector.sequence == 0 ? 2 : 0;
+            return isRebuilding() ? 2 : 0;
         }
 
         long blockAt(int row) {

@@ -7,16 +7,16 @@ public final class AddTest {
         tenAtMost();
         isNotThereIfThePowerWent();
         comesAmidReshapingAndRebuilding();
-        GrowingArray down = Arrays5.down(3, 4);
+        GrowingArray down = Samples.down(3, 4);
         CHECK.thrown("add() while down", IllegalStateException.class, down::add);
         CHECK.due("count(0) behind it", down.count(0), 3);
         CHECK.end();
     }
 
     private static void comesAsTheLastSpare() {
-        GrowingArray x = Arrays5.filled(4, 3);
+        GrowingArray x = Samples.filled(4, 3);
         x.cut(0);
-        x.write(0, Arrays5.valueAt(0));
+        x.write(0, Samples.valueAt(0));
         x.open();
         int before = x.count(11);
         CHECK.due("add()", x.add(), 5);
@@ -44,7 +44,7 @@ public final class AddTest {
     }
 
     private static void isNotThereIfThePowerWent() {
-        GrowingArray x = Arrays5.filled(3, 4);
+        GrowingArray x = Samples.filled(3, 4);
         x.cut(0);
         CHECK.due("add() as the power goes", x.add(), 0);
         CHECK.due("count(0)", x.count(0), 3);
@@ -58,7 +58,7 @@ public final class AddTest {
     }
 
     private static void comesAmidReshapingAndRebuilding() {
-        GrowingArray x = Arrays5.growing(3, 5, 1, 2);
+        GrowingArray x = Samples.growing(3, 5, 1, 2);
         CHECK.due("add() amid a reshaping", x.add(), 5);
         CHECK.due("disk(4, 1)", x.disk(4, 1), 1);
         CHECK.due("disk(3, 1)", x.disk(3, 1), 0);
@@ -67,6 +67,6 @@ public final class AddTest {
         CHECK.due("add() with a disk failed", x.add(), 6);
         x.replace();
         CHECK.due("add() amid a rebuilding", x.add(), 7);
-        CHECK.due("sum()", x.sum(), Arrays5.sumOfValues(10));
+        CHECK.due("sum()", x.sum(), Samples.sumOfValues(10));
     }
 }

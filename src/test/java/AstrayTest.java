@@ -3,7 +3,7 @@ public final class AstrayTest {
     private static final Check CHECK = new Check("AstrayTest");
 
     public static void main(String[] args) {
-        GrowingArray x = Arrays5.filled(4, 6);
+        GrowingArray x = Samples.filled(4, 6);
         CHECK.due("astray()", x.astray(), 0);
         x.add();
         x.fail(4);

@@ -43,18 +43,18 @@ public final class CountTest {
     }
 
     private static void tellsWhileDownAsItHeld() {
-        GrowingArray x = Arrays5.growing(3, 4, 1, 3);
-        String before = Arrays5.held(x);
+        GrowingArray x = Samples.growing(3, 4, 1, 3);
+        String before = Samples.held(x);
         int writes = x.count(11);
         x.cut(5);
         x.step();
-        CHECK.isTrue("as it held", before.equals(Arrays5.held(x)));
+        CHECK.isTrue("as it held", before.equals(Samples.held(x)));
         CHECK.due("count(5)", x.count(5), 0);
         CHECK.due("count(11)", x.count(11), writes + 5);
         CHECK.due("count(13)", x.count(13), 1);
         x.fail(2);
         CHECK.due("count(7)", x.count(7), 2);
-        CHECK.isTrue("as it held", before.equals(Arrays5.held(x)));
+        CHECK.isTrue("as it held", before.equals(Samples.held(x)));
     }
 
     private static void wrongOnes() {

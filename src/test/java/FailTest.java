@@ -10,7 +10,7 @@ public final class FailTest {
     }
 
     private static void oneAtATime() {
-        GrowingArray x = Arrays5.filled(3, 4);
+        GrowingArray x = Samples.filled(3, 4);
         int[] wrong = {-1, 3, 9, 10, Integer.MIN_VALUE, Integer.MAX_VALUE};
         for (int d : wrong) {
             CHECK.due("fail(" + d + ")", x.fail(d), false);
@@ -30,11 +30,11 @@ public final class FailTest {
             CHECK.due("fail(1) while disk 2 is rebuilding", x.fail(1), false);
         }
         CHECK.due("fail(0) once all are live", x.fail(0), true);
-        CHECK.due("sum()", x.sum(), Arrays5.sumOfValues(8));
+        CHECK.due("sum()", x.sum(), Samples.sumOfValues(8));
     }
 
     private static void aSpareFails() {
-        GrowingArray x = Arrays5.filled(3, 4);
+        GrowingArray x = Samples.filled(3, 4);
         CHECK.due("fail(3) ahead of add()", x.fail(3), false);
         x.add();
         CHECK.due("fail(3)", x.fail(3), true);
@@ -44,15 +44,15 @@ public final class FailTest {
     }
 
     private static void whileDown() {
-        GrowingArray x = Arrays5.down(3, 4);
+        GrowingArray x = Samples.down(3, 4);
         CHECK.due("fail(1) while down", x.fail(1), true);
         CHECK.due("disk(1, 0)", x.disk(1, 0), 1);
         CHECK.due("fail(0) while down", x.fail(0), false);
         x.open();
         CHECK.due("count(7)", x.count(7), 1);
-        CHECK.due("sum()", x.sum(), Arrays5.sumOfValues(8));
+        CHECK.due("sum()", x.sum(), Samples.sumOfValues(8));
 
-        GrowingArray rebuilding = Arrays5.filled(3, 4);
+        GrowingArray rebuilding = Samples.filled(3, 4);
         rebuilding.fail(0);
         rebuilding.replace();
         rebuilding.cut(0);

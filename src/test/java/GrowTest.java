@@ -7,13 +7,13 @@ public final class GrowTest {
         saysNone();
         growsOverASpareThatFailed();
         overPower();
-        GrowingArray down = Arrays5.down(3, 4);
+        GrowingArray down = Samples.down(3, 4);
         CHECK.thrown("grow() while down", IllegalStateException.class, down::grow);
         CHECK.end();
     }
 
     private static void beginsOverAllSpares() {
-        GrowingArray x = Arrays5.filled(3, 4);
+        GrowingArray x = Samples.filled(3, 4);
         x.add();
         x.add();
         int before = x.count(11);
@@ -28,11 +28,11 @@ public final class GrowTest {
             CHECK.due("disk(" + d + ", 3)", x.disk(d, 3), 2);
             CHECK.due("disk(" + d + ", 1)", x.disk(d, 1), 0);
         }
-        CHECK.due("sum()", x.sum(), Arrays5.sumOfValues(8));
+        CHECK.due("sum()", x.sum(), Samples.sumOfValues(8));
     }
 
     private static void saysNone() {
-        GrowingArray x = Arrays5.filled(3, 4);
+        GrowingArray x = Samples.filled(3, 4);
         CHECK.due("grow() without a spare", x.grow(), -1);
         x.add();
         x.fail(0);
@@ -52,27 +52,27 @@ public final class GrowTest {
     }
 
     private static void growsOverASpareThatFailed() {
-        GrowingArray x = Arrays5.filled(3, 4);
+        GrowingArray x = Samples.filled(3, 4);
         x.add();
         x.fail(3);
         CHECK.due("grow() with a spare failed", x.grow(), 4);
         CHECK.due("disk(3, 1)", x.disk(3, 1), 0);
         CHECK.due("astray() with a disk out", x.astray(), -1);
         while (x.step() == 1) {
-            CHECK.due("sum()", x.sum(), Arrays5.sumOfValues(8));
+            CHECK.due("sum()", x.sum(), Samples.sumOfValues(8));
         }
-        CHECK.due("sum() behind it", x.sum(), Arrays5.sumOfGrown(8, 12));
+        CHECK.due("sum() behind it", x.sum(), Samples.sumOfGrown(8, 12));
         x.replace();
         CHECK.due("disk(3, 0)", x.disk(3, 0), 2);
         while (x.rebuild() == 1) {
-            CHECK.due("sum()", x.sum(), Arrays5.sumOfGrown(8, 12));
+            CHECK.due("sum()", x.sum(), Samples.sumOfGrown(8, 12));
         }
         CHECK.due("astray()", x.astray(), 0);
     }
 
     private static void overPower() {
         for (int n = 0; n < 5; n++) {
-            GrowingArray x = Arrays5.filled(4, 3);
+            GrowingArray x = Samples.filled(4, 3);
             x.add();
             x.cut(n);
             CHECK.due("grow() at cut " + n, x.grow(), 0);

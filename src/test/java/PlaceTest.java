@@ -26,7 +26,7 @@ public final class PlaceTest {
     }
 
     private static void amidAReshaping() {
-        GrowingArray x = Arrays5.growing(3, 6, 2, 2);
+        GrowingArray x = Samples.growing(3, 6, 2, 2);
         liesAt(x, 0, 0, 0, 4, 1);
         liesAt(x, 3, 3, 0, 4, 1);
         liesAt(x, 4, 4, 1, 3, 1);
@@ -46,7 +46,7 @@ public final class PlaceTest {
     }
 
     private static void whileDown() {
-        GrowingArray x = Arrays5.growing(3, 6, 2, 1);
+        GrowingArray x = Samples.growing(3, 6, 2, 1);
         x.cut(6);
         x.step();
         CHECK.due("count(5)", x.count(5), 0);

@@ -11,7 +11,7 @@ public final class PowerTest {
     /** A state with so many places filled, and a call in which the power goes (true: it stayed). */
     private record Scene(int filled, Supplier<GrowingArray> maker, Predicate<GrowingArray> call) {
         long sumDue(GrowingArray x) {
-            return Arrays5.sumOfGrown(filled, x.count(4));
+            return Samples.sumOfGrown(filled, x.count(4));
         }
     }
 
@@ -28,21 +28,21 @@ public final class PowerTest {
 
     private static List<Scene> scenes() {
         List<Scene> all = new ArrayList<>();
-        all.add(new Scene(9, () -> Arrays5.filled(4, 3), x -> x.write(4, Arrays5.valueAt(4))));
-        all.add(new Scene(9, () -> Arrays5.filled(4, 3), x -> x.add() > 0));
-        all.add(new Scene(9, () -> spared(Arrays5.filled(4, 3)), x -> x.grow() > 0));
-        all.add(new Scene(9, () -> without(spared(Arrays5.filled(4, 3)), 4), x -> x.replace()));
-        all.add(new Scene(9, () -> without(spared(Arrays5.filled(4, 3)), 4), x -> x.grow() > 0));
+        all.add(new Scene(9, () -> Samples.filled(4, 3), x -> x.write(4, Samples.valueAt(4))));
+        all.add(new Scene(9, () -> Samples.filled(4, 3), x -> x.add() > 0));
+        all.add(new Scene(9, () -> spared(Samples.filled(4, 3)), x -> x.grow() > 0));
+        all.add(new Scene(9, () -> without(spared(Samples.filled(4, 3)), 4), x -> x.replace()));
+        all.add(new Scene(9, () -> without(spared(Samples.filled(4, 3)), 4), x -> x.grow() > 0));
         for (int steps = 0; steps < 5; steps++) {
             int done = steps;
-            all.add(new Scene(10, () -> Arrays5.growing(3, 5, 1, done), x -> x.step() > 0));
-            all.add(new Scene(10, () -> Arrays5.growing(3, 5, 3, done), x -> x.step() > 0));
-            all.add(new Scene(10, () -> spared(Arrays5.growing(3, 5, 1, done)), x -> x.step() > 0));
-            all.add(new Scene(10, () -> Arrays5.growing(3, 5, 2, done), x -> x.write(5, Arrays5.valueAt(5))));
+            all.add(new Scene(10, () -> Samples.growing(3, 5, 1, done), x -> x.step() > 0));
+            all.add(new Scene(10, () -> Samples.growing(3, 5, 3, done), x -> x.step() > 0));
+            all.add(new Scene(10, () -> spared(Samples.growing(3, 5, 1, done)), x -> x.step() > 0));
+            all.add(new Scene(10, () -> Samples.growing(3, 5, 2, done), x -> x.write(5, Samples.valueAt(5))));
             all.add(new Scene(10, () -> journalAheadOfStep(done), x -> x.step() > 0));
-            all.add(new Scene(15, () -> without(Arrays5.growing(4, 5, 2, done), 1), x -> x.step() > 0));
-            all.add(new Scene(10, () -> rebuilding(Arrays5.growing(3, 5, 1, done), 3, 4), x -> x.rebuild() > 0));
-            all.add(new Scene(10, () -> rebuilding(Arrays5.growing(3, 5, 1, done), 0, 4), x -> x.rebuild() > 0));
+            all.add(new Scene(15, () -> without(Samples.growing(4, 5, 2, done), 1), x -> x.step() > 0));
+            all.add(new Scene(10, () -> rebuilding(Samples.growing(3, 5, 1, done), 3, 4), x -> x.rebuild() > 0));
+            all.add(new Scene(10, () -> rebuilding(Samples.growing(3, 5, 1, done), 0, 4), x -> x.rebuild() > 0));
         }
         return all;
     }
@@ -67,15 +67,15 @@ public final class PowerTest {
     }
 
     private static GrowingArray journalAheadOfStep(int steps) {
-        GrowingArray x = Arrays5.growing(3, 5, 2, steps);
+        GrowingArray x = Samples.growing(3, 5, 2, steps);
         int a = Math.min(9, steps * 4);
-        x.write(a, Arrays5.valueAt(a));
+        x.write(a, Samples.valueAt(a));
         return x;
     }
 
     private static boolean endsUncutAt(Scene scene, int n) {
         GrowingArray probe = scene.maker().get();
-        String held = Arrays5.held(probe);
+        String held = Samples.held(probe);
         int before = probe.count(11);
         probe.cut(n);
         if (scene.call().test(probe)) {
@@ -84,7 +84,7 @@ public final class PowerTest {
         CHECK.due("writes made at cut " + n, probe.count(11), before + n);
         CHECK.due("count(5) at cut " + n, probe.count(5), 0);
         CHECK.due("count(13) at cut " + n, probe.count(13), 1);
-        CHECK.isTrue("told as it held at cut " + n, held.equals(Arrays5.held(probe)));
+        CHECK.isTrue("told as it held at cut " + n, held.equals(Samples.held(probe)));
         for (int fails = -1; fails < probe.count(0); fails++) {
             int again = 0;
             while (again < UNCUT && !opensUncutAt(scene, n, fails, again)) {

@@ -4,17 +4,17 @@ public final class RebuildTest {
 
     public static void main(String[] args) {
         for (int out = 0; out < 5; out++) {
-            rebuildsEveryRow(Arrays5.filled(5, 7), out, 28);
+            rebuildsEveryRow(Samples.filled(5, 7), out, 28);
         }
         for (int steps = 0; steps < 6; steps++) {
             for (int out = 0; out < 5; out++) {
-                rebuildsEveryRow(Arrays5.growing(3, 6, 2, steps), out, 12);
+                rebuildsEveryRow(Samples.growing(3, 6, 2, steps), out, 12);
             }
         }
         beginsAgainOverPower();
         isLiveWithItsSuper();
         saysNone();
-        GrowingArray down = Arrays5.down(3, 4);
+        GrowingArray down = Samples.down(3, 4);
         CHECK.thrown("rebuild() while down", IllegalStateException.class, down::rebuild);
         CHECK.end();
     }
@@ -39,13 +39,13 @@ public final class RebuildTest {
             CHECK.due("disk(" + d + ", 3)", x.disk(d, 3), sequence + 1);
         }
         CHECK.due("count(8) once it is live", x.count(8), 0);
-        CHECK.due("sum()", x.sum(), Arrays5.sumOfValues(places));
+        CHECK.due("sum()", x.sum(), Samples.sumOfValues(places));
         x.fail((out + 1) % x.count(2));
-        CHECK.due("sum() without another one", x.sum(), Arrays5.sumOfValues(places));
+        CHECK.due("sum() without another one", x.sum(), Samples.sumOfValues(places));
     }
 
     private static void beginsAgainOverPower() {
-        GrowingArray x = Arrays5.filled(4, 5);
+        GrowingArray x = Samples.filled(4, 5);
         x.fail(2);
         x.replace();
         x.rebuild();
@@ -64,13 +64,13 @@ public final class RebuildTest {
             CHECK.due("rebuild()", x.rebuild(), row < 4 ? 1 : 2);
         }
         CHECK.due("astray()", x.astray(), 0);
-        CHECK.due("sum()", x.sum(), Arrays5.sumOfValues(15));
+        CHECK.due("sum()", x.sum(), Samples.sumOfValues(15));
     }
 
     /** With the last row there are a block and four SUPERS to write; that of disk 2 is the third. */
     private static void isLiveWithItsSuper() {
         for (int n = 0; n < 5; n++) {
-            GrowingArray x = Arrays5.filled(4, 3);
+            GrowingArray x = Samples.filled(4, 3);
             x.fail(2);
             x.replace();
             x.rebuild();
@@ -82,12 +82,12 @@ public final class RebuildTest {
             CHECK.due("disk(2, 0) at cut " + n, x.disk(2, 0), n < 4 ? 2 : 0);
             CHECK.due("count(9) at cut " + n, x.count(9), n < 2 ? 2 : 3);
             CHECK.due("astray() at cut " + n, x.astray(), n < 4 ? -1 : 0);
-            CHECK.due("sum() at cut " + n, x.sum(), Arrays5.sumOfValues(9));
+            CHECK.due("sum() at cut " + n, x.sum(), Samples.sumOfValues(9));
         }
     }
 
     private static void saysNone() {
-        GrowingArray x = Arrays5.filled(3, 4);
+        GrowingArray x = Samples.filled(3, 4);
         CHECK.due("rebuild() with all live", x.rebuild(), -1);
         x.fail(0);
         CHECK.due("rebuild() with one failed", x.rebuild(), -1);

@@ -17,8 +17,8 @@ public final class ReplaceTest {
     }
 
     private static void isRebuildingFromRowZero() {
-        GrowingArray x = Arrays5.growing(3, 4, 1, 2);
-        x.write(0, Arrays5.valueAt(0));
+        GrowingArray x = Samples.growing(3, 4, 1, 2);
+        x.write(0, Samples.valueAt(0));
         x.fail(0);
         int before = x.count(11);
         x.cut(0);
@@ -29,15 +29,15 @@ public final class ReplaceTest {
         tells(x, 0, 2, 0, 0, 0, 0, 0);
         CHECK.due("count(7)", x.count(7), 0);
         CHECK.due("count(8)", x.count(8), 0);
-        CHECK.due("sum()", x.sum(), Arrays5.sumOfValues(8));
+        CHECK.due("sum()", x.sum(), Samples.sumOfValues(8));
         x.rebuild();
         CHECK.due("count(8)", x.count(8), 1);
     }
 
     private static void aSpareIsLiveAtOnce() {
-        GrowingArray x = Arrays5.filled(3, 4);
+        GrowingArray x = Samples.filled(3, 4);
         x.cut(0);
-        x.write(0, Arrays5.valueAt(0));
+        x.write(0, Samples.valueAt(0));
         x.open();
         x.add();
         x.add();
@@ -53,7 +53,7 @@ public final class ReplaceTest {
     }
 
     private static void aSpareAsThePowerGoes() {
-        GrowingArray x = Arrays5.filled(3, 4);
+        GrowingArray x = Samples.filled(3, 4);
         x.add();
         x.fail(3);
         x.cut(0);
@@ -68,11 +68,11 @@ public final class ReplaceTest {
     }
 
     private static void saysFalse() {
-        GrowingArray x = Arrays5.filled(3, 4);
+        GrowingArray x = Samples.filled(3, 4);
         CHECK.due("replace() with none failed", x.replace(), false);
         x.fail(1);
         x.cut(0);
-        x.write(0, Arrays5.valueAt(0));
+        x.write(0, Samples.valueAt(0));
         CHECK.due("replace() while down", x.replace(), false);
         CHECK.due("disk(1, 0)", x.disk(1, 0), 1);
         x.open();

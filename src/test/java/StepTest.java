@@ -13,13 +13,13 @@ public final class StepTest {
         backsUpToSparesToo();
         skipsTheDiskThatIsOut();
         saysNone();
-        GrowingArray down = Arrays5.down(3, 4);
+        GrowingArray down = Samples.down(3, 4);
         CHECK.thrown("step() while down", IllegalStateException.class, down::step);
         CHECK.end();
     }
 
     private static void movesEveryRow(int disks, int rows, int spares) {
-        GrowingArray x = Arrays5.growing(disks, rows, spares, 0);
+        GrowingArray x = Samples.growing(disks, rows, spares, 0);
         int places = rows * (disks - 1);
         int m = disks + spares;
         String of = disks + " + " + spares + " disks, " + rows + " rows: ";
@@ -33,7 +33,7 @@ public final class StepTest {
             CHECK.due(of + "count(12)", x.count(12), row + 1);
             CHECK.due(of + "astray()", x.astray(), 0);
             CHECK.due(of + "sum()", x.sum(),
-                row + 1 < rows ? Arrays5.sumOfValues(places) : Arrays5.sumOfGrown(places, rows * (m - 1)));
+                row + 1 < rows ? Samples.sumOfValues(places) : Samples.sumOfGrown(places, rows * (m - 1)));
         }
         CHECK.due(of + "count(1)", x.count(1), m);
         CHECK.due(of + "count(2)", x.count(2), m);
@@ -43,7 +43,7 @@ public final class StepTest {
     }
 
     private static void backsUpCriticalRowsAlone() {
-        GrowingArray x = Arrays5.growing(5, 8, 2, 0);
+        GrowingArray x = Samples.growing(5, 8, 2, 0);
         CHECK.due("disk(0, 5) ahead of it", x.disk(0, 5), 0);
         x.cut(7);
         x.step();
@@ -62,7 +62,7 @@ public final class StepTest {
     }
 
     private static void backsUpToSparesToo() {
-        GrowingArray x = Arrays5.growing(3, 4, 1, 0);
+        GrowingArray x = Samples.growing(3, 4, 1, 0);
         x.add();
         int before = x.count(11);
         x.step();
@@ -74,31 +74,31 @@ public final class StepTest {
 
     private static void skipsTheDiskThatIsOut() {
         for (int out = 0; out < 5; out++) {
-            GrowingArray x = Arrays5.growing(3, 6, 2, 0);
+            GrowingArray x = Samples.growing(3, 6, 2, 0);
             x.fail(out);
             int taken = x.disk(out, 2);
             int before = x.count(11);
             CHECK.due("step() without disk " + out, x.step(), 1);
             CHECK.due("writes without disk " + out, x.count(11), before + 12);
             while (x.step() == 1) {
-                CHECK.due("sum() without disk " + out, x.sum(), Arrays5.sumOfValues(12));
+                CHECK.due("sum() without disk " + out, x.sum(), Samples.sumOfValues(12));
             }
             CHECK.due("disk(" + out + ", 2)", x.disk(out, 2), taken);
-            CHECK.due("sum() behind it", x.sum(), Arrays5.sumOfGrown(12, 24));
+            CHECK.due("sum() behind it", x.sum(), Samples.sumOfGrown(12, 24));
         }
     }
 
     private static void saysNone() {
-        GrowingArray x = Arrays5.filled(3, 4);
+        GrowingArray x = Samples.filled(3, 4);
         CHECK.due("step() not reshaped", x.step(), -1);
         x.add();
         CHECK.due("step() with a spare", x.step(), -1);
         x.grow();
         x.fail(2);
         x.replace();
-        String before = Arrays5.all(x);
+        String before = Samples.all(x);
         CHECK.due("step() while rebuilding", x.step(), -1);
-        CHECK.isTrue("it changed nothing", before.equals(Arrays5.all(x)));
+        CHECK.isTrue("it changed nothing", before.equals(Samples.all(x)));
         while (x.rebuild() == 1) {
             CHECK.due("step() while rebuilding", x.step(), -1);
         }

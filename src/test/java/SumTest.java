@@ -16,9 +16,9 @@ public final class SumTest {
         x.write(0, Long.MIN_VALUE);
         x.fail(0);
         CHECK.due("sum() without a disk", x.sum(), 29791L * Long.MIN_VALUE + 67);
-        GrowingArray grown = Arrays5.growing(4, 48, 3, 48);
-        CHECK.due("sum() of the places that came, too", grown.sum(), Arrays5.sumOfGrown(144, 288));
-        GrowingArray down = Arrays5.down(3, 4);
+        GrowingArray grown = Samples.growing(4, 48, 3, 48);
+        CHECK.due("sum() of the places that came, too", grown.sum(), Samples.sumOfGrown(144, 288));
+        GrowingArray down = Samples.down(3, 4);
         CHECK.thrown("sum() while down", IllegalStateException.class, down::sum);
         CHECK.end();
     }

@@ -68,7 +68,7 @@ public final class WriteTest {
     }
 
     private static void isByTheGeometryThatHolds() {
-        GrowingArray x = Arrays5.growing(3, 6, 2, 2);
+        GrowingArray x = Samples.growing(3, 6, 2, 2);
         for (int a = 0; a < 12; a++) {
             CHECK.due("write(" + a + ") amid a reshaping", x.write(a, 50 + a), true);
         }
@@ -86,13 +86,13 @@ public final class WriteTest {
 
     private static void keepsOldOrNewOverPower() {
         for (int n = 0; n <= 4; n++) {
-            GrowingArray x = Arrays5.filled(4, 4);
+            GrowingArray x = Samples.filled(4, 4);
             x.cut(n);
             CHECK.due("write at cut " + n, x.write(5, 77), n == 4);
             CHECK.due("count(10) at cut " + n, x.count(10), 13);
             x.cut(-1);
             CHECK.due("open() at cut " + n, x.open(), n == 4 ? -1 : 3);
-            CHECK.due("read(5) at cut " + n, x.read(5), n == 0 ? Arrays5.valueAt(5) : 77);
+            CHECK.due("read(5) at cut " + n, x.read(5), n == 0 ? Samples.valueAt(5) : 77);
             CHECK.due("astray() at cut " + n, x.astray(), 0);
             x.write(0, 1);
             CHECK.due("the count goes on over power", x.disk(0, 4), 14);
@@ -100,20 +100,20 @@ public final class WriteTest {
     }
 
     private static void refusesWhatIsNoPlace() {
-        GrowingArray x = Arrays5.growing(3, 4, 1, 1);
+        GrowingArray x = Samples.growing(3, 4, 1, 1);
         int[] wrong = {-1, 8, 9, Integer.MIN_VALUE, Integer.MAX_VALUE};
-        String before = Arrays5.all(x);
+        String before = Samples.all(x);
         for (int a : wrong) {
             CHECK.thrown("write(" + a + ")", IndexOutOfBoundsException.class, () -> x.write(a, 1));
         }
-        CHECK.isTrue("a refused write changes nothing", before.equals(Arrays5.all(x)));
+        CHECK.isTrue("a refused write changes nothing", before.equals(Samples.all(x)));
     }
 
     private static void refusesWhileDown() {
-        GrowingArray x = Arrays5.down(3, 4);
-        String before = Arrays5.all(x);
+        GrowingArray x = Samples.down(3, 4);
+        String before = Samples.all(x);
         CHECK.thrown("write(0) while down", IllegalStateException.class, () -> x.write(0, 1));
         CHECK.thrown("write(-1) while down", IllegalStateException.class, () -> x.write(-1, 1));
-        CHECK.isTrue("a refused write changes nothing", before.equals(Arrays5.all(x)));
+        CHECK.isTrue("a refused write changes nothing", before.equals(Samples.all(x)));
     }
 }

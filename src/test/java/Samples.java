@@ -1,6 +1,6 @@
 /** Arrays in the states that several tests begin from. */
-final class Arrays5 {
-    private Arrays5() {
+final class Samples {
+    private Samples() {
     }
 
     static long valueAt(int a) {
