@@ -4,12 +4,13 @@ public final class AddTest {
 
     public static void main(String[] args) {
         comesAsTheLastSpare();
-        tenAtMost();
+        for (int disks = 3; disks <= 7; disks++) {
+            tenAtMost(disks);
+        }
         isNotThereIfThePowerWent();
         comesAmidReshapingAndRebuilding();
-        GrowingArray down = Samples.down(3, 4);
-        CHECK.thrown("add() while down", IllegalStateException.class, down::add);
-        CHECK.due("count(0) behind it", down.count(0), 3);
+        hasASuperAsItHolds();
+        refusesWhileDown();
         CHECK.end();
     }
 
@@ -22,39 +23,57 @@ public final class AddTest {
         CHECK.due("add()", x.add(), 5);
         CHECK.due("count(0)", x.count(0), 5);
         CHECK.due("count(1)", x.count(1), 4);
+        CHECK.due("count(2)", x.count(2), 4);
         CHECK.due("count(4)", x.count(4), 9);
+        CHECK.due("count(6)", x.count(6), 0);
         CHECK.due("count(11)", x.count(11), before + 1);
         int[] due = {0, 1, 1, 2, 0, 0};
         for (int what = 0; what < due.length; what++) {
             CHECK.due("disk(4, " + what + ")", x.disk(4, what), due[what]);
         }
+        CHECK.due("disk(5, 0)", x.disk(5, 0), -1);
         CHECK.due("the sequence stays", x.count(9), 2);
     }
 
-    private static void tenAtMost() {
-        GrowingArray x = new GrowingArray(7, 2);
-        for (int due = 8; due <= 10; due++) {
+    private static void tenAtMost(int disks) {
+        GrowingArray x = Samples.filled(disks, 2);
+        int before = x.count(11);
+        for (int due = disks + 1; due <= 10; due++) {
             CHECK.due("add()", x.add(), due);
         }
+        CHECK.leaves("add() to ten", x, x::add, -1);
         x.cut(0);
-        CHECK.due("add() to ten", x.add(), -1);
-        CHECK.due("no write was tried", x.count(5), 1);
+        CHECK.leaves("add() to ten with no write left", x, x::add, -1);
         CHECK.due("count(0)", x.count(0), 10);
-        CHECK.due("count(11)", x.count(11), 3);
+        CHECK.due("count(11)", x.count(11), before + 10 - disks);
+        x.cut(-1);
+        x.grow();
+        CHECK.leaves("add() to ten that are reshaped", x, x::add, -1);
+        while (x.step() == 1) {
+            CHECK.leaves("add() to ten that are reshaped", x, x::add, -1);
+        }
+        CHECK.leaves("add() to an array of ten", x, x::add, -1);
     }
 
     private static void isNotThereIfThePowerWent() {
-        GrowingArray x = Samples.filled(3, 4);
-        x.cut(0);
-        CHECK.due("add() as the power goes", x.add(), 0);
-        CHECK.due("count(0)", x.count(0), 3);
-        CHECK.due("disk(3, 0)", x.disk(3, 0), -1);
-        CHECK.due("count(5)", x.count(5), 0);
-        x.open();
-        CHECK.due("count(0) behind the opening", x.count(0), 3);
-        CHECK.due("add()", x.add(), 4);
-        CHECK.due("disk(3, 2)", x.disk(3, 2), 1);
-        CHECK.due("disk(3, 3)", x.disk(3, 3), x.count(9));
+        for (int disks = 3; disks <= 7; disks++) {
+            GrowingArray x = Samples.filled(disks, 4);
+            x.cut(0);
+            CHECK.due("add() as the power goes", x.add(), 0);
+            CHECK.due("count(0)", x.count(0), disks);
+            for (int what = 0; what < 6; what++) {
+                CHECK.due("disk(" + disks + ", " + what + ")", x.disk(disks, what), -1);
+            }
+            CHECK.due("fail() of it", x.fail(disks), false);
+            CHECK.due("count(5)", x.count(5), 0);
+            CHECK.due("count(13)", x.count(13), 1);
+            x.open();
+            CHECK.due("count(0) behind the opening", x.count(0), disks);
+            CHECK.due("grow() over none", x.grow(), -1);
+            CHECK.due("add()", x.add(), disks + 1);
+            CHECK.due("disk(" + disks + ", 2)", x.disk(disks, 2), 1);
+            CHECK.due("disk(" + disks + ", 3)", x.disk(disks, 3), 2);
+        }
     }
 
     private static void comesAmidReshapingAndRebuilding() {
@@ -67,6 +86,34 @@ public final class AddTest {
         CHECK.due("add() with a disk failed", x.add(), 6);
         x.replace();
         CHECK.due("add() amid a rebuilding", x.add(), 7);
+        CHECK.due("count(7)", x.count(7), 1);
         CHECK.due("sum()", x.sum(), Samples.sumOfValues(10));
+    }
+
+    private static void hasASuperAsItHolds() {
+        GrowingArray x = Samples.growing(3, 5, 1, 2);
+        x.add();
+        for (int d = 0; d < 4; d++) {
+            CHECK.due("disk(4, 3) is as that of disk " + d, x.disk(4, 3), x.disk(d, 3));
+        }
+        x.cut(0);
+        x.step();
+        x.open();
+        CHECK.due("count(1)", x.count(1), 3);
+        CHECK.due("count(2)", x.count(2), 4);
+        CHECK.due("count(3)", x.count(3), 3);
+        CHECK.due("sum()", x.sum(), Samples.sumOfValues(10));
+    }
+
+    private static void refusesWhileDown() {
+        GrowingArray x = Samples.down(3, 4);
+        CHECK.refuses("add() while down", IllegalStateException.class, x, x::add);
+        GrowingArray ten = Samples.filled(7, 2);
+        for (int k = 0; k < 3; k++) {
+            ten.add();
+        }
+        ten.cut(0);
+        ten.write(0, 1);
+        CHECK.refuses("add() to ten while down", IllegalStateException.class, ten, ten::add);
     }
 }

@@ -1,3 +1,5 @@
+import java.util.function.LongSupplier;
+
 /** Compares answers with those that are due, and ends the test with 1 if one was wrong. */
 final class Check {
     private final String test;
@@ -37,6 +39,20 @@ final class Check {
             wrong++;
             System.out.println(test + ": " + call + " threw " + got + ", due is " + want);
         }
+    }
+
+    /** It answers that, and nothing that the face tells is another behind it. */
+    void leaves(String call, GrowingArray x, LongSupplier made, long want) {
+        String before = Samples.all(x);
+        due(call, made.getAsLong(), want);
+        isTrue(call + " changes nothing", before.equals(Samples.all(x)));
+    }
+
+    /** It throws that, and nothing that the face tells is another behind it. */
+    void refuses(String call, Class<? extends RuntimeException> want, GrowingArray x, Runnable made) {
+        String before = Samples.all(x);
+        thrown(call, want, made);
+        isTrue(call + " changes nothing", before.equals(Samples.all(x)));
     }
 
     void end() {

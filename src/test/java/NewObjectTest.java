@@ -4,17 +4,21 @@ public final class NewObjectTest {
 
     public static void main(String[] args) {
         for (int disks = 3; disks <= 7; disks++) {
-            isNew(disks, 2, disks, 2);
-            isNew(disks, 48, disks, 48);
+            for (int rows = 2; rows <= 48; rows++) {
+                isNew(disks, rows, disks, rows);
+            }
         }
         int[] wrongDisks = {2, 8, 0, -1, 10, Integer.MIN_VALUE, Integer.MAX_VALUE};
         for (int disks : wrongDisks) {
-            isNew(disks, 5, 4, 5);
+            isNew(disks, 2, 4, 2);
+            isNew(disks, 48, 4, 48);
         }
         int[] wrongRows = {1, 49, 0, -1, Integer.MIN_VALUE, Integer.MAX_VALUE};
         for (int rows : wrongRows) {
-            isNew(5, rows, 5, 16);
-            isNew(0, rows, 4, 16);
+            isNew(3, rows, 3, 16);
+            isNew(7, rows, 7, 16);
+            isNew(2, rows, 4, 16);
+            isNew(8, rows, 4, 16);
         }
         powerStays();
         CHECK.end();

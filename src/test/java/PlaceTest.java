@@ -1,12 +1,19 @@
 /** Promise 12. */
 public final class PlaceTest {
     private static final Check CHECK = new Check("PlaceTest");
+    private static final int[] NO_WHAT = {-1, 4, 5, Integer.MIN_VALUE, Integer.MAX_VALUE};
 
     public static void main(String[] args) {
         liesAsWrittenOut();
+        for (int n = 3; n <= 10; n++) {
+            liesByTheGeometryOf(n);
+        }
         amidAReshaping();
+        onBothSidesOfTheFront();
         whileDown();
-        wrongOnes();
+        whileDownBehindAnOpening();
+        aPlaceThatIsNone();
+        anotherWhat();
         CHECK.end();
     }
 
@@ -16,6 +23,10 @@ public final class PlaceTest {
         }
     }
 
+    private static void isNone(GrowingArray x, int a) {
+        liesAt(x, a, -1, -1, -1, -1);
+    }
+
     private static void liesAsWrittenOut() {
         GrowingArray x = new GrowingArray(4, 6);
         int[] disks = {0, 1, 2, 3, 0, 1, 2, 3, 0, 1, 2, 3, 0, 1, 2, 3, 0, 1};
@@ -23,6 +34,25 @@ public final class PlaceTest {
         for (int a = 0; a < 18; a++) {
             liesAt(x, a, disks[a], a / 3, parity[a / 3], 0);
         }
+    }
+
+    /** Walks the rows as the document tells them, with more rows than disks, so that all go round. */
+    private static void liesByTheGeometryOf(int n) {
+        int made = Math.min(n, 7);
+        GrowingArray x = n == made ? new GrowingArray(n, 23) : Samples.growing(7, 23, n - 7, 23);
+        int a = 0;
+        int parity = n - 1;
+        for (int row = 0; row < 23; row++) {
+            int disk = parity;
+            for (int k = 0; k < n - 1; k++) {
+                disk = disk == n - 1 ? 0 : disk + 1;
+                liesAt(x, a, disk, row, parity, 0);
+                a++;
+            }
+            parity = parity == 0 ? n - 1 : parity - 1;
+        }
+        CHECK.due("count(4) of " + n + " disks", x.count(4), a);
+        isNone(x, a);
     }
 
     private static void amidAReshaping() {
@@ -35,14 +65,28 @@ public final class PlaceTest {
         liesAt(x, 8, 2, 4, 1, 0);
         liesAt(x, 9, 0, 4, 1, 0);
         liesAt(x, 11, 2, 5, 0, 0);
-        liesAt(x, 12, -1, -1, -1, -1);
+        isNone(x, 12);
         x.step();
         liesAt(x, 11, 1, 2, 2, 1);
         while (x.step() == 1) {
             liesAt(x, 11, 1, 2, 2, 1);
+            isNone(x, 12);
         }
         liesAt(x, 11, 1, 2, 2, 0);
         liesAt(x, 23, 3, 5, 4, 0);
+        isNone(x, 24);
+    }
+
+    private static void onBothSidesOfTheFront() {
+        GrowingArray x = Samples.growing(4, 7, 1, 0);
+        for (int front = 0; front < 7; front++) {
+            CHECK.due("count(3)", x.count(3), front);
+            for (int a = 0; a < 21; a++) {
+                CHECK.due("FRONT " + front + ": place(" + a + ", 3)", x.place(a, 3), a < front * 4 ? 1 : 0);
+                CHECK.due("FRONT " + front + ": place(" + a + ", 1)", x.place(a, 1), a < front * 4 ? a / 4 : a / 3);
+            }
+            x.step();
+        }
     }
 
     private static void whileDown() {
@@ -50,22 +94,57 @@ public final class PlaceTest {
         x.cut(6);
         x.step();
         CHECK.due("count(5)", x.count(5), 0);
+        liesAt(x, 3, 3, 0, 4, 1);
         liesAt(x, 4, 1, 2, 0, 0);
+        liesAt(x, 11, 2, 5, 0, 0);
+        isNone(x, -1);
+        isNone(x, 12);
         x.open();
         CHECK.due("the step has ended with one SUPER, another one was made", x.count(3), 3);
         liesAt(x, 4, 4, 1, 3, 1);
         liesAt(x, 11, 1, 2, 2, 1);
+
+        GrowingArray ending = Samples.growing(3, 4, 1, 3);
+        ending.cut(7);
+        ending.step();
+        liesAt(ending, 7, 3, 2, 1, 1);
+        isNone(ending, 8);
+        ending.open();
+        liesAt(ending, 8, 0, 2, 1, 0);
+        liesAt(ending, 11, 3, 3, 0, 0);
+        isNone(ending, 12);
     }
 
-    private static void wrongOnes() {
+    private static void whileDownBehindAnOpening() {
+        GrowingArray x = Samples.growing(3, 6, 2, 1);
+        x.cut(6);
+        x.step();
+        x.cut(0);
+        CHECK.due("open() as the power goes", x.open(), 0);
+        liesAt(x, 4, 4, 1, 3, 1);
+        liesAt(x, 8, 2, 4, 1, 0);
+    }
+
+    private static void aPlaceThatIsNone() {
+        int[] wrong = {-1, -2, 8, 9, 100, Integer.MIN_VALUE, Integer.MAX_VALUE};
         GrowingArray x = new GrowingArray(3, 4);
-        int[] wrong = {-1, 8, 9, Integer.MIN_VALUE, Integer.MAX_VALUE};
+        GrowingArray growing = Samples.growing(3, 4, 2, 2);
+        GrowingArray down = Samples.down(3, 4);
         for (int a : wrong) {
-            liesAt(x, a, -1, -1, -1, -1);
+            isNone(x, a);
+            isNone(growing, a);
+            isNone(down, a);
         }
-        int[] wrongWhat = {-1, 4, Integer.MIN_VALUE, Integer.MAX_VALUE};
-        for (int what : wrongWhat) {
-            CHECK.due("place(0, " + what + ")", x.place(0, what), -1);
+    }
+
+    private static void anotherWhat() {
+        GrowingArray x = Samples.growing(3, 4, 2, 1);
+        GrowingArray down = Samples.down(3, 4);
+        for (int what : NO_WHAT) {
+            for (int a = -1; a <= 8; a++) {
+                CHECK.due("place(" + a + ", " + what + ")", x.place(a, what), -1);
+                CHECK.due("place(" + a + ", " + what + ") while down", down.place(a, what), -1);
+            }
         }
     }
 }

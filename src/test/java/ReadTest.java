@@ -5,9 +5,14 @@ public final class ReadTest {
     public static void main(String[] args) {
         for (int disks = 3; disks <= 7; disks++) {
             readsWithEachDiskOut(disks);
+            readsThePlacesAtBothEnds(disks, 2);
+            readsThePlacesAtBothEnds(disks, 48);
         }
         readsAmidReshapingWithEachDiskOut();
-        refuses();
+        readsADiskThatIsRebuilding();
+        hasThePlacesOfNTillTheEnd();
+        refusesWhatIsNoPlace();
+        refusesWhileDown();
         CHECK.end();
     }
 
@@ -27,6 +32,16 @@ public final class ReadTest {
         }
     }
 
+    private static void readsThePlacesAtBothEnds(int disks, int rows) {
+        String of = disks + " disks, " + rows + " rows: ";
+        GrowingArray x = Samples.filled(disks, rows);
+        int last = rows * (disks - 1) - 1;
+        CHECK.due(of + "read(0)", x.read(0), Samples.valueAt(0));
+        CHECK.due(of + "read(" + last + ")", x.read(last), Samples.valueAt(last));
+        isNoPlace(of, x, -1);
+        isNoPlace(of, x, last + 1);
+    }
+
     private static void readsAmidReshapingWithEachDiskOut() {
         for (int steps = 0; steps <= 7; steps++) {
             for (int out = -1; out < 6; out++) {
@@ -37,14 +52,52 @@ public final class ReadTest {
         }
     }
 
-    private static void refuses() {
+    private static void readsADiskThatIsRebuilding() {
+        for (int steps = 0; steps <= 4; steps++) {
+            for (int out = 0; out < 4; out++) {
+                GrowingArray x = Samples.growing(3, 4, 1, steps);
+                x.fail(out);
+                x.replace();
+                for (int rebuilt = 0; rebuilt <= 4; rebuilt++) {
+                    allAreThere(steps + " steps, disk " + out + ", " + rebuilt + " rows rebuilt", x, 8);
+                    x.rebuild();
+                }
+            }
+        }
+    }
+
+    private static void isNoPlace(String of, GrowingArray x, int a) {
+        CHECK.refuses(of + "read(" + a + ")", IndexOutOfBoundsException.class, x, () -> x.read(a));
+    }
+
+    private static void hasThePlacesOfNTillTheEnd() {
+        GrowingArray x = Samples.growing(3, 4, 1, 0);
+        for (int steps = 0; steps < 4; steps++) {
+            CHECK.due(steps + " steps: read(7)", x.read(7), Samples.valueAt(7));
+            isNoPlace(steps + " steps: ", x, 8);
+            x.step();
+        }
+        CHECK.due("read(8) behind it", x.read(8), 0);
+        CHECK.due("read(11) behind it", x.read(11), 0);
+        isNoPlace("behind it: ", x, 12);
+    }
+
+    private static void refusesWhatIsNoPlace() {
         GrowingArray x = Samples.filled(3, 4);
+        x.fail(0);
         int[] wrong = {-1, 8, Integer.MIN_VALUE, Integer.MAX_VALUE};
         for (int a : wrong) {
-            CHECK.thrown("read(" + a + ")", IndexOutOfBoundsException.class, () -> x.read(a));
+            isNoPlace("", x, a);
         }
-        GrowingArray down = Samples.down(3, 4);
-        CHECK.thrown("read(0) while down", IllegalStateException.class, () -> down.read(0));
-        CHECK.thrown("read(8) while down", IllegalStateException.class, () -> down.read(8));
+    }
+
+    private static void refusesWhileDown() {
+        GrowingArray x = Samples.down(3, 4);
+        int[] places = {0, 7, -1, 8, Integer.MIN_VALUE, Integer.MAX_VALUE};
+        for (int a : places) {
+            CHECK.refuses("read(" + a + ") while down", IllegalStateException.class, x, () -> x.read(a));
+        }
+        x.open();
+        CHECK.due("read(0) once it is opened", x.read(0), Samples.valueAt(0));
     }
 }

@@ -7,7 +7,14 @@ public final class WriteTest {
         skipsTheDiskThatIsOut();
         reachesRebuiltRowsAlone();
         isByTheGeometryThatHolds();
-        keepsOldOrNewOverPower();
+        for (int disks = 3; disks <= 7; disks++) {
+            takesThePlacesAtBothEnds(disks, 2);
+            takesThePlacesAtBothEnds(disks, 16);
+            takesThePlacesAtBothEnds(disks, 48);
+        }
+        hasThePlacesOfNTillTheEnd();
+        takesAllNumbers();
+        keepsOldOrNewAtEachWrite();
         refusesWhatIsNoPlace();
         refusesWhileDown();
         CHECK.end();
@@ -59,6 +66,8 @@ public final class WriteTest {
         CHECK.due("a rebuilding disk has no journal", x.disk(0, 4), 0);
         x.write(5, 2);
         CHECK.due("value to a row not rebuilt: disk(0, 2)", x.disk(0, 2), 2);
+        x.write(11, 4);
+        CHECK.due("parity to a row not rebuilt: disk(0, 2)", x.disk(0, 2), 2);
         x.rebuild();
         x.rebuild();
         CHECK.due("rebuild()", x.rebuild(), 2);
@@ -84,36 +93,119 @@ public final class WriteTest {
         }
     }
 
-    private static void keepsOldOrNewOverPower() {
-        for (int n = 0; n <= 4; n++) {
-            GrowingArray x = Samples.filled(4, 4);
-            x.cut(n);
-            CHECK.due("write at cut " + n, x.write(5, 77), n == 4);
-            CHECK.due("count(10) at cut " + n, x.count(10), 13);
-            x.cut(-1);
-            CHECK.due("open() at cut " + n, x.open(), n == 4 ? -1 : 3);
-            CHECK.due("read(5) at cut " + n, x.read(5), n == 0 ? Samples.valueAt(5) : 77);
-            CHECK.due("astray() at cut " + n, x.astray(), 0);
-            x.write(0, 1);
-            CHECK.due("the count goes on over power", x.disk(0, 4), 14);
+    private static void takesThePlacesAtBothEnds(int disks, int rows) {
+        String of = disks + " disks, " + rows + " rows: ";
+        int last = rows * (disks - 1) - 1;
+        GrowingArray x = new GrowingArray(disks, rows);
+        CHECK.due(of + "write(0)", x.write(0, 7), true);
+        CHECK.due(of + "write(" + last + ")", x.write(last, -9), true);
+        CHECK.due(of + "read(0)", x.read(0), 7);
+        CHECK.due(of + "read(1)", x.read(1), 0);
+        CHECK.due(of + "read(" + (last - 1) + ")", x.read(last - 1), 0);
+        CHECK.due(of + "read(" + last + ")", x.read(last), -9);
+        CHECK.due(of + "astray()", x.astray(), 0);
+        isNoPlace(of, x, -1);
+        isNoPlace(of, x, last + 1);
+    }
+
+    private static void isNoPlace(String of, GrowingArray x, int a) {
+        CHECK.refuses(of + "write(" + a + ")", IndexOutOfBoundsException.class, x, () -> x.write(a, 1));
+    }
+
+    private static void hasThePlacesOfNTillTheEnd() {
+        GrowingArray x = Samples.growing(3, 4, 2, 0);
+        for (int steps = 0; steps < 4; steps++) {
+            String of = steps + " steps: ";
+            CHECK.due(of + "write(0)", x.write(0, steps), true);
+            CHECK.due(of + "write(7)", x.write(7, -steps), true);
+            isNoPlace(of, x, 8);
+            CHECK.due(of + "read(0)", x.read(0), steps);
+            CHECK.due(of + "read(7)", x.read(7), -steps);
+            x.step();
         }
+        CHECK.due("write(8) behind it", x.write(8, 88), true);
+        CHECK.due("write(15) behind it", x.write(15, 99), true);
+        isNoPlace("behind it: ", x, 16);
+        CHECK.due("read(8)", x.read(8), 88);
+        CHECK.due("read(15)", x.read(15), 99);
+    }
+
+    private static void takesAllNumbers() {
+        long[] numbers = {0, 1, -1, Long.MAX_VALUE, Long.MIN_VALUE, 1L << 31, -1L << 32};
+        GrowingArray x = Samples.filled(3, 2);
+        for (long v : numbers) {
+            for (int a = 0; a < 4; a++) {
+                CHECK.due("write(" + a + ", " + v + ")", x.write(a, v), true);
+                CHECK.due("read(" + a + ")", x.read(a), v);
+            }
+            CHECK.due("astray()", x.astray(), 0);
+        }
+    }
+
+    private static void keepsOldOrNewAtEachWrite() {
+        // Place 5 of 4 disks: row 1, on disk 1, its parity on disk 2.
+        for (int out = -1; out < 4; out++) {
+            int writes = out == 1 || out == 2 ? 3 : 4;
+            for (int n = 0; n <= writes; n++) {
+                GrowingArray x = Samples.filled(4, 4);
+                x.fail(out);
+                isCutAt("without disk " + out + ", cut " + n, x, n, writes);
+            }
+        }
+        for (int rebuilt = 0; rebuilt < 4; rebuilt++) {
+            int writes = rebuilt < 2 ? 3 : 4;
+            for (int n = 0; n <= writes; n++) {
+                GrowingArray x = Samples.filled(4, 4);
+                x.fail(1);
+                x.replace();
+                for (int k = 0; k < rebuilt; k++) {
+                    x.rebuild();
+                }
+                isCutAt(rebuilt + " rows rebuilt, cut " + n, x, n, writes);
+            }
+        }
+    }
+
+    private static void isCutAt(String when, GrowingArray x, int n, int writes) {
+        int before = x.count(11);
+        int out = x.count(7);
+        x.cut(n);
+        CHECK.due(when + ": write(5)", x.write(5, 77), n == writes);
+        CHECK.due(when + ": writes", x.count(11), before + n);
+        CHECK.due(when + ": count(5)", x.count(5), n == writes ? 1 : 0);
+        CHECK.due(when + ": count(10)", x.count(10), 13);
+        CHECK.due(when + ": count(13)", x.count(13), n == writes ? 0 : 1);
+        x.cut(-1);
+        CHECK.due(when + ": open()", x.open(), n == writes ? -1 : 3);
+        long kept = n == 0 ? Samples.valueAt(5) : 77;
+        CHECK.due(when + ": read(5)", x.read(5), kept);
+        CHECK.due(when + ": sum()", x.sum(), Samples.sumWith(12, 5, kept));
+        CHECK.due(when + ": astray()", x.astray(), out < 0 ? 0 : -1);
+        x.write(0, 1);
+        CHECK.due(when + ": the count goes on over power", x.count(10), 14);
+        CHECK.due(when + ": in the journal, too", x.disk(out == 0 ? 1 : 0, 4), 14);
     }
 
     private static void refusesWhatIsNoPlace() {
         GrowingArray x = Samples.growing(3, 4, 1, 1);
-        int[] wrong = {-1, 8, 9, Integer.MIN_VALUE, Integer.MAX_VALUE};
-        String before = Samples.all(x);
+        int[] wrong = {-1, 8, 9, 12, Integer.MIN_VALUE, Integer.MAX_VALUE};
+        x.cut(0);
         for (int a : wrong) {
-            CHECK.thrown("write(" + a + ")", IndexOutOfBoundsException.class, () -> x.write(a, 1));
+            isNoPlace("", x, a);
         }
-        CHECK.isTrue("a refused write changes nothing", before.equals(Samples.all(x)));
+        CHECK.due("no write to a disk was tried", x.count(13), 0);
     }
 
     private static void refusesWhileDown() {
         GrowingArray x = Samples.down(3, 4);
-        String before = Samples.all(x);
-        CHECK.thrown("write(0) while down", IllegalStateException.class, () -> x.write(0, 1));
-        CHECK.thrown("write(-1) while down", IllegalStateException.class, () -> x.write(-1, 1));
-        CHECK.isTrue("a refused write changes nothing", before.equals(Samples.all(x)));
+        int[] places = {0, 7, -1, 8, Integer.MIN_VALUE, Integer.MAX_VALUE};
+        for (int a : places) {
+            CHECK.refuses("write(" + a + ") while down", IllegalStateException.class, x, () -> x.write(a, 1));
+        }
+        x.cut(0);
+        x.open();
+        CHECK.refuses("write(0) down still", IllegalStateException.class, x, () -> x.write(0, 1));
+        x.open();
+        CHECK.due("sum()", x.sum(), Samples.sumOfValues(8));
     }
 }
