@@ -1,10 +1,8 @@
-import java.lang.reflect.Field;
-
 /** Promise 15. */
 public final class AstrayTest {
     private static final Check CHECK = new Check("AstrayTest");
 
-    public static void main(String[] args) throws ReflectiveOperationException {
+    public static void main(String[] args) {
         isZeroInOrdinaryRuns();
         aDiskOfTheArrayThatIsNotLive();
         aDiskThatTheArrayGrowsOver();
@@ -91,35 +89,26 @@ public final class AstrayTest {
         CHECK.due("astray() once it is opened", unharmed.astray(), 0);
     }
 
-    /** No run of calls leads there, so the block is changed behind the face's back. */
-    private static void spoil(GrowingArray x, int d, int row) throws ReflectiveOperationException {
-        Field disks = GrowingArray.class.getDeclaredField("disks");
-        disks.setAccessible(true);
-        Object disk = ((Object[]) disks.get(x))[d];
-        Field blocks = disk.getClass().getDeclaredField("blocks");
-        blocks.setAccessible(true);
-        ((long[]) blocks.get(disk))[row] ^= 1L << 63;
-    }
-
-    private static void countsRowsThatAreSpoilt() throws ReflectiveOperationException {
+    /** No run of calls leads there, so blocks are changed behind the face's back. */
+    private static void countsRowsThatAreSpoilt() {
         for (int d = 0; d < 4; d++) {
             GrowingArray x = Samples.filled(4, 6);
             for (int row = 0; row < 6; row++) {
-                spoil(x, d, row);
+                Inside.spoil(x, d, row);
                 CHECK.due("astray() with rows 0 to " + row + " of disk " + d + " spoilt", x.astray(), row + 1);
             }
-            spoil(x, (d + 1) % 4, 2);
+            Inside.spoil(x, (d + 1) % 4, 2);
             CHECK.due("astray() with a row spoilt twice alike", x.astray(), 5);
         }
     }
 
-    private static void countsByTheGeometryThatHolds() throws ReflectiveOperationException {
+    private static void countsByTheGeometryThatHolds() {
         GrowingArray x = Samples.growing(3, 6, 2, 2);
-        spoil(x, 4, 1);
+        Inside.spoil(x, 4, 1);
         CHECK.due("astray() with a row by M spoilt", x.astray(), 1);
-        spoil(x, 4, 2);
+        Inside.spoil(x, 4, 2);
         CHECK.due("a row by N has no block on disk 4", x.astray(), 1);
-        spoil(x, 2, 5);
+        Inside.spoil(x, 2, 5);
         CHECK.due("astray() with a row by N spoilt, too", x.astray(), 2);
     }
 }

@@ -6,6 +6,7 @@ public final class ReplaceTest {
         for (int d = 0; d < 4; d++) {
             isRebuildingFromRowZero(d);
         }
+        itsBlocksAreZero();
         beginsAtRowZeroEachTime();
         aSpareIsLiveAtOnce();
         aSpareAsThePowerGoes();
@@ -44,6 +45,20 @@ public final class ReplaceTest {
         x.rebuild();
         CHECK.due("count(8)", x.count(8), 1);
         tells(x, d, 2, 0, 1, 0, 0, 0);
+    }
+
+    private static void itsBlocksAreZero() {
+        for (int d = 0; d < 5; d++) {
+            GrowingArray x = Samples.filled(4, 5);
+            x.add();
+            Inside.spoil(x, 4, 0);
+            Inside.spoil(x, 4, 4);
+            x.fail(d);
+            x.replace();
+            for (int row = 0; row < 5; row++) {
+                CHECK.due("disk " + d + ", row " + row, Inside.block(x, d, row), 0);
+            }
+        }
     }
 
     private static void beginsAtRowZeroEachTime() {
