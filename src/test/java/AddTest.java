@@ -6,6 +6,7 @@ public final class AddTest {
         comesAsTheLastSpare();
         for (int disks = 3; disks <= 7; disks++) {
             tenAtMost(disks);
+            tenThatAreReshaped(disks);
         }
         isNotThereIfThePowerWent();
         comesAmidReshapingAndRebuilding();
@@ -46,11 +47,13 @@ public final class AddTest {
         CHECK.leaves("add() to ten with no write left", x, x::add, -1);
         CHECK.due("count(0)", x.count(0), 10);
         CHECK.due("count(11)", x.count(11), before + 10 - disks);
-        x.cut(-1);
-        x.grow();
+    }
+
+    private static void tenThatAreReshaped(int disks) {
+        GrowingArray x = Samples.growing(disks, 2, 10 - disks, 0);
         CHECK.leaves("add() to ten that are reshaped", x, x::add, -1);
         while (x.step() == 1) {
-            CHECK.leaves("add() to ten that are reshaped", x, x::add, -1);
+            CHECK.due("add() to ten that are reshaped", x.add(), -1);
         }
         CHECK.leaves("add() to an array of ten", x, x::add, -1);
     }

@@ -41,18 +41,23 @@ final class Check {
         }
     }
 
+    /** What the face told before (Samples.all) it tells still. */
+    void stays(String call, GrowingArray x, String before) {
+        isTrue(call + " changes nothing", before.equals(Samples.all(x)));
+    }
+
     /** It answers that, and nothing that the face tells is another behind it. */
     void leaves(String call, GrowingArray x, LongSupplier made, long want) {
         String before = Samples.all(x);
         due(call, made.getAsLong(), want);
-        isTrue(call + " changes nothing", before.equals(Samples.all(x)));
+        stays(call, x, before);
     }
 
     /** It throws that, and nothing that the face tells is another behind it. */
     void refuses(String call, Class<? extends RuntimeException> want, GrowingArray x, Runnable made) {
         String before = Samples.all(x);
         thrown(call, want, made);
-        isTrue(call + " changes nothing", before.equals(Samples.all(x)));
+        stays(call, x, before);
     }
 
     void end() {

@@ -90,16 +90,16 @@ public final class CutTest {
     private static void isNoWriteItself() {
         int[] all = {0, 1, 1000, -1, Integer.MAX_VALUE, Integer.MIN_VALUE};
         GrowingArray x = Samples.growing(3, 4, 1, 1);
+        String told = Samples.all(x);
         for (int n : all) {
-            String before = Samples.all(x);
             x.cut(n);
-            CHECK.isTrue("cut(" + n + ") changes nothing that is told", before.equals(Samples.all(x)));
+            CHECK.stays("cut(" + n + ")", x, told);
         }
         GrowingArray down = Samples.down(3, 4);
+        String toldDown = Samples.all(down);
         for (int n : all) {
-            String before = Samples.all(down);
             down.cut(n);
-            CHECK.isTrue("cut(" + n + ") while down likewise", before.equals(Samples.all(down)));
+            CHECK.stays("cut(" + n + ") while down", down, toldDown);
         }
     }
 

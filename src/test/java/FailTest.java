@@ -24,8 +24,12 @@ public final class FailTest {
         CHECK.due(when + "count(11)", x.count(11), before);
     }
 
-    private static void isFalse(String when, GrowingArray x, int d) {
-        CHECK.leaves(when + "fail(" + d + ")", x, () -> x.fail(d) ? 1 : 0, 0);
+    private static void isFalse(String when, GrowingArray x, int... disks) {
+        String before = Samples.all(x);
+        for (int d : disks) {
+            CHECK.due(when + "fail(" + d + ")", x.fail(d), false);
+        }
+        CHECK.stays(when + "fail()", x, before);
     }
 
     private static void eachDiskMay(int disks) {
@@ -37,24 +41,22 @@ public final class FailTest {
     }
 
     private static void saysFalseOfADiskThatIsNone() {
-        GrowingArray x = Samples.filled(3, 4);
         for (int disks = 3; disks <= 10; disks++) {
-            for (int d : NEVER) {
-                isFalse(disks + " disks: ", x, d);
+            GrowingArray x = Samples.filled(3, 4);
+            for (int k = 3; k < disks; k++) {
+                x.add();
             }
+            isFalse(disks + " disks: ", x, NEVER);
             isFalse(disks + " disks: ", x, disks);
-            x.add();
+            fails(disks + " disks: ", x, disks - 1);
         }
-        fails("ten disks: ", x, 9);
     }
 
     private static void saysFalseWithOneFailed() {
         GrowingArray x = Samples.filled(4, 4);
         x.add();
         x.fail(2);
-        for (int d = -1; d <= 5; d++) {
-            isFalse("disk 2 is failed: ", x, d);
-        }
+        isFalse("disk 2 is failed: ", x, -1, 0, 1, 2, 3, 4, 5);
     }
 
     private static void saysFalseWithOneOut() {
@@ -63,9 +65,7 @@ public final class FailTest {
         x.fail(1);
         x.replace();
         for (int rebuilt = 0; rebuilt < 4; rebuilt++) {
-            for (int d = 0; d < 4; d++) {
-                isFalse(rebuilt + " rows of disk 1 are rebuilt: ", x, d);
-            }
+            isFalse(rebuilt + " rows of disk 1 are rebuilt: ", x, 0, 1, 2, 3);
             x.rebuild();
         }
         fails("all are live: ", x, 1);
@@ -76,8 +76,7 @@ public final class FailTest {
         isFalse("ahead of add(): ", x, 3);
         x.add();
         fails("a spare: ", x, 3);
-        isFalse("a spare is failed: ", x, 0);
-        isFalse("a spare is failed: ", x, 3);
+        isFalse("a spare is failed: ", x, 0, 3);
         CHECK.due("astray() with a spare failed", x.astray(), 0);
         x.replace();
         fails("the spare was replaced: ", x, 0);
@@ -89,14 +88,10 @@ public final class FailTest {
             x.add();
             x.cut(0);
             x.write(0, 1);
-            for (int none : NEVER) {
-                isFalse("down: ", x, none);
-            }
+            isFalse("down: ", x, NEVER);
             isFalse("down: ", x, 4);
             fails("down: ", x, d);
-            for (int other = 0; other < 4; other++) {
-                isFalse("down with disk " + d + " failed: ", x, other);
-            }
+            isFalse("down with disk " + d + " failed: ", x, 0, 1, 2, 3);
             x.open();
             CHECK.due("count(7) once it is opened", x.count(7), d);
             CHECK.due("sum()", x.sum(), Samples.sumOfValues(8));
@@ -110,9 +105,7 @@ public final class FailTest {
         x.rebuild();
         x.cut(0);
         x.rebuild();
-        for (int d = 0; d < 3; d++) {
-            isFalse("down, disk 0 is rebuilding: ", x, d);
-        }
+        isFalse("down, disk 0 is rebuilding: ", x, 0, 1, 2);
         x.cut(0);
         x.open();
         isFalse("down still, disk 0 is rebuilding: ", x, 1);

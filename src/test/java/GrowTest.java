@@ -62,7 +62,7 @@ public final class GrowTest {
         CHECK.leaves("grow() while reshaped, no write left", x, x::grow, -1);
         x.cut(-1);
         while (x.step() == 1) {
-            CHECK.leaves("grow() while reshaped", x, x::grow, -1);
+            CHECK.due("grow() while reshaped", x.grow(), -1);
         }
         CHECK.due("grow() once that has ended", x.grow(), 5);
         CHECK.due("count(1)", x.count(1), 4);
@@ -78,7 +78,7 @@ public final class GrowTest {
         CHECK.leaves("grow() while rebuilding, no write left", x, x::grow, -1);
         x.cut(-1);
         while (x.rebuild() == 1) {
-            CHECK.leaves("grow() while rebuilding", x, x::grow, -1);
+            CHECK.due("grow() while rebuilding", x.grow(), -1);
         }
         CHECK.due("grow() once it is rebuilt", x.grow(), 4);
     }

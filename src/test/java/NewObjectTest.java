@@ -40,11 +40,6 @@ public final class NewObjectTest {
         for (int a = 0; a < dueRows * (dueDisks - 1); a++) {
             CHECK.due(made + "read(" + a + ")", x.read(a), 0);
         }
-        for (int d = 0; d < dueDisks; d++) {
-            for (int row = 0; row < dueRows; row++) {
-                CHECK.due(made + "disk " + d + ", row " + row, Inside.block(x, d, row), 0);
-            }
-        }
         CHECK.due(made + "astray()", x.astray(), 0);
         CHECK.due(made + "open()", x.open(), GrowingArray.NONE);
     }

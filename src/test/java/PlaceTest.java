@@ -38,11 +38,11 @@ public final class PlaceTest {
 
     /** Walks the rows as the document tells them, with more rows than disks, so that all go round. */
     private static void liesByTheGeometryOf(int n) {
-        int made = Math.min(n, 7);
-        GrowingArray x = n == made ? new GrowingArray(n, 23) : Samples.growing(7, 23, n - 7, 23);
+        int rows = n + 1;
+        GrowingArray x = n <= 7 ? new GrowingArray(n, rows) : grown(7, rows, n - 7);
         int a = 0;
         int parity = n - 1;
-        for (int row = 0; row < 23; row++) {
+        for (int row = 0; row < rows; row++) {
             int disk = parity;
             for (int k = 0; k < n - 1; k++) {
                 disk = disk == n - 1 ? 0 : disk + 1;
@@ -53,6 +53,18 @@ public final class PlaceTest {
         }
         CHECK.due("count(4) of " + n + " disks", x.count(4), a);
         isNone(x, a);
+    }
+
+    private static GrowingArray grown(int disks, int rows, int spares) {
+        GrowingArray x = new GrowingArray(disks, rows);
+        for (int k = 0; k < spares; k++) {
+            x.add();
+        }
+        x.grow();
+        for (int k = 0; k < rows; k++) {
+            x.step();
+        }
+        return x;
     }
 
     private static void amidAReshaping() {

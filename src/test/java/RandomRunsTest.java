@@ -5,7 +5,7 @@ import java.util.Random;
 public final class RandomRunsTest {
     private static final Check CHECK = new Check("RandomRunsTest");
     // So many that an object's calls, those that look at it too, stay below 512.
-    private static final int ACTS = 45;
+    private static final int ACTS = 30;
 
     private final Random random;
     private final GrowingArray x;

@@ -38,8 +38,7 @@ public final class ReadTest {
         int last = rows * (disks - 1) - 1;
         CHECK.due(of + "read(0)", x.read(0), Samples.valueAt(0));
         CHECK.due(of + "read(" + last + ")", x.read(last), Samples.valueAt(last));
-        isNoPlace(of, x, -1);
-        isNoPlace(of, x, last + 1);
+        isNoPlace(of, x, -1, last + 1);
     }
 
     private static void readsAmidReshapingWithEachDiskOut() {
@@ -66,15 +65,23 @@ public final class ReadTest {
         }
     }
 
-    private static void isNoPlace(String of, GrowingArray x, int a) {
-        CHECK.refuses(of + "read(" + a + ")", IndexOutOfBoundsException.class, x, () -> x.read(a));
+    private static void isNoPlace(String of, GrowingArray x, int... places) {
+        areRefused(of, IndexOutOfBoundsException.class, x, places);
+    }
+
+    private static void areRefused(String of, Class<? extends RuntimeException> due, GrowingArray x, int... places) {
+        String before = Samples.all(x);
+        for (int a : places) {
+            CHECK.thrown(of + "read(" + a + ")", due, () -> x.read(a));
+        }
+        CHECK.stays(of + "read()", x, before);
     }
 
     private static void hasThePlacesOfNTillTheEnd() {
         GrowingArray x = Samples.growing(3, 4, 1, 0);
         for (int steps = 0; steps < 4; steps++) {
             CHECK.due(steps + " steps: read(7)", x.read(7), Samples.valueAt(7));
-            isNoPlace(steps + " steps: ", x, 8);
+            CHECK.thrown(steps + " steps: read(8)", IndexOutOfBoundsException.class, () -> x.read(8));
             x.step();
         }
         CHECK.due("read(8) behind it", x.read(8), 0);
@@ -85,18 +92,13 @@ public final class ReadTest {
     private static void refusesWhatIsNoPlace() {
         GrowingArray x = Samples.filled(3, 4);
         x.fail(0);
-        int[] wrong = {-1, 8, Integer.MIN_VALUE, Integer.MAX_VALUE};
-        for (int a : wrong) {
-            isNoPlace("", x, a);
-        }
+        isNoPlace("", x, -1, 8, Integer.MIN_VALUE, Integer.MAX_VALUE);
     }
 
     private static void refusesWhileDown() {
         GrowingArray x = Samples.down(3, 4);
         int[] places = {0, 7, -1, 8, Integer.MIN_VALUE, Integer.MAX_VALUE};
-        for (int a : places) {
-            CHECK.refuses("read(" + a + ") while down", IllegalStateException.class, x, () -> x.read(a));
-        }
+        areRefused("while down: ", IllegalStateException.class, x, places);
         x.open();
         CHECK.due("read(0) once it is opened", x.read(0), Samples.valueAt(0));
     }

@@ -64,28 +64,40 @@ final class Samples {
         for (int what : told) {
             text.append(what).append(':').append(x.count(what)).append(' ');
         }
-        for (int a = -1; a <= x.count(4); a++) {
-            for (int what = 0; what < 4; what++) {
-                text.append(x.place(a, what)).append(',');
-            }
+        int places = x.count(4);
+        for (int a = -1; a <= places; a++) {
+            placeTold(text, x, a);
         }
-        for (int d = 0; d < x.count(0); d++) {
+        int disks = x.count(0);
+        for (int d = 0; d < disks; d++) {
             text.append(x.disk(d, 1));
         }
         return text.toString();
     }
 
-    /** All that the face tells, for tests that nothing changes. */
-    static String all(GrowingArray x) {
-        StringBuilder text = new StringBuilder(held(x));
-        for (int what = -1; what < 16; what++) {
-            text.append(' ').append(x.count(what));
+    private static void placeTold(StringBuilder text, GrowingArray x, int a) {
+        for (int what = 0; what < 4; what++) {
+            text.append(x.place(a, what)).append(',');
         }
-        for (int d = -1; d <= x.count(0); d++) {
-            for (int what = -1; what < 7; what++) {
-                text.append(' ').append(x.disk(d, what));
+    }
+
+    /**
+     * What the face tells, for tests that nothing changes. Of the places only those at the ends:
+     * an object has 512 calls, and where the others lie follows from N, M and FRONT.
+     */
+    static String all(GrowingArray x) {
+        StringBuilder text = new StringBuilder();
+        for (int what = 0; what < 15; what++) {
+            text.append(x.count(what)).append(' ');
+        }
+        int disks = x.count(0);
+        for (int d = 0; d < disks; d++) {
+            for (int what = 0; what < 6; what++) {
+                text.append(x.disk(d, what)).append(' ');
             }
         }
+        placeTold(text, x, 0);
+        placeTold(text, x, x.count(4) - 1);
         text.append(' ').append(x.astray());
         if (x.count(5) == 1) {
             text.append(' ').append(x.sum());

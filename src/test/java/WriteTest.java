@@ -104,12 +104,19 @@ public final class WriteTest {
         CHECK.due(of + "read(" + (last - 1) + ")", x.read(last - 1), 0);
         CHECK.due(of + "read(" + last + ")", x.read(last), -9);
         CHECK.due(of + "astray()", x.astray(), 0);
-        isNoPlace(of, x, -1);
-        isNoPlace(of, x, last + 1);
+        isNoPlace(of, x, -1, last + 1);
     }
 
-    private static void isNoPlace(String of, GrowingArray x, int a) {
-        CHECK.refuses(of + "write(" + a + ")", IndexOutOfBoundsException.class, x, () -> x.write(a, 1));
+    private static void isNoPlace(String of, GrowingArray x, int... places) {
+        areRefused(of, IndexOutOfBoundsException.class, x, places);
+    }
+
+    private static void areRefused(String of, Class<? extends RuntimeException> due, GrowingArray x, int... places) {
+        String before = Samples.all(x);
+        for (int a : places) {
+            CHECK.thrown(of + "write(" + a + ")", due, () -> x.write(a, 1));
+        }
+        CHECK.stays(of + "write()", x, before);
     }
 
     private static void hasThePlacesOfNTillTheEnd() {
@@ -118,7 +125,7 @@ public final class WriteTest {
             String of = steps + " steps: ";
             CHECK.due(of + "write(0)", x.write(0, steps), true);
             CHECK.due(of + "write(7)", x.write(7, -steps), true);
-            isNoPlace(of, x, 8);
+            CHECK.thrown(of + "write(8)", IndexOutOfBoundsException.class, () -> x.write(8, 1));
             CHECK.due(of + "read(0)", x.read(0), steps);
             CHECK.due(of + "read(7)", x.read(7), -steps);
             x.step();
@@ -188,20 +195,15 @@ public final class WriteTest {
 
     private static void refusesWhatIsNoPlace() {
         GrowingArray x = Samples.growing(3, 4, 1, 1);
-        int[] wrong = {-1, 8, 9, 12, Integer.MIN_VALUE, Integer.MAX_VALUE};
         x.cut(0);
-        for (int a : wrong) {
-            isNoPlace("", x, a);
-        }
+        isNoPlace("", x, -1, 8, 9, 12, Integer.MIN_VALUE, Integer.MAX_VALUE);
         CHECK.due("no write to a disk was tried", x.count(13), 0);
     }
 
     private static void refusesWhileDown() {
         GrowingArray x = Samples.down(3, 4);
         int[] places = {0, 7, -1, 8, Integer.MIN_VALUE, Integer.MAX_VALUE};
-        for (int a : places) {
-            CHECK.refuses("write(" + a + ") while down", IllegalStateException.class, x, () -> x.write(a, 1));
-        }
+        areRefused("while down: ", IllegalStateException.class, x, places);
         x.cut(0);
         x.open();
         CHECK.refuses("write(0) down still", IllegalStateException.class, x, () -> x.write(0, 1));
